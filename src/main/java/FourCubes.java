@@ -904,7 +904,11 @@ public final class FourCubes {
             return find(0) ? turns[k] : NOT;
         }
 
-        int total(int place) {
+        boolean hasAny() {
+            return find(0);
+        }
+
+        private int total(int place) {
             if (place >= height) {
                 return 1;
             }
@@ -922,7 +926,7 @@ public final class FourCubes {
             return sum;
         }
 
-        boolean find(int place) {
+        private boolean find(int place) {
             if (place >= height) {
                 return true;
             }
@@ -1051,7 +1055,7 @@ public final class FourCubes {
         boolean goes() {
             startFrom(0);
             fitAll();
-            return search.find(0);
+            return search.hasAny();
         }
 
         boolean goesWith(Cube part, int face, int colour) {

@@ -266,8 +266,10 @@ public final class AloneTest {
         for (int k = 1; k <= 41; k++) {
             y.paint(0, k == 1 ? 5 : 1 + k % 2);
         }
-        for (int k = 0; k < 40; k++) {
-            y.undo();
+        Check.due("forty of them", y.count(3), 40);
+        for (int k = 39; k >= 0; k--) {
+            Check.due("colour ahead of an undo", y.of(0, 0), k % 2 == 0 ? 1 : 2);
+            Check.due("undo", y.undo(), k);
         }
         Check.due("the first of forty-one is gone", y.undo(), STATE);
         Check.due("so its colour stays", y.of(0, 0), 5);

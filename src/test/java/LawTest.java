@@ -9,6 +9,7 @@ public final class LawTest {
         depth();
         faultKeepsLaw();
         values();
+        longest();
         names();
         lines();
         wornIsNotAsked();
@@ -119,6 +120,30 @@ public final class LawTest {
         mayBe(x, least + "/-1=" + least, true);
         mayBe(x, least + "%-1=0", true);
         mayBe(x, "-" + least + "=" + least, true);
+    }
+
+    /** A text of 120 bytes, each of which counts. */
+    private static void longest() {
+        FourCubes x = threeAndFive();
+        StringBuilder text = new StringBuilder("!0");
+        for (int k = 0; k < 59; k++) {
+            text.append("+0");
+        }
+        mayBe(x, text.toString(), true);
+        text.setLength(118);
+        mayBe(x, text + "-1", false);
+        StringBuilder lines = new StringBuilder("-0?1");
+        for (int k = 0; k < 29; k++) {
+            lines.append(";0?1");
+        }
+        mayBe(x, lines.toString(), false);
+        lines.setLength(116);
+        mayBe(x, lines + ";1?1", true);
+        StringBuilder shortest = new StringBuilder("0");
+        for (int k = 0; k < 59; k++) {
+            shortest.append(";0");
+        }
+        mayBe(x, shortest.toString(), false);
     }
 
     private static void names() {

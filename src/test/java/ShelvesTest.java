@@ -159,6 +159,10 @@ public final class ShelvesTest {
         Check.due("nothing in the other", x.shift(3, 0, 5, 0, 1), NOTHING);
         Check.due("a body", x.shift(3, 0, 0, 0, 1), KIND);
         Check.due("to a body", x.shift(0, 9, 3, 0, 1), KIND);
+        x.row(5, 0, 5);
+        Check.due("a body to bytes", x.shift(3, 0, 5, 0, 0), KIND);
+        Check.due("bytes to a body", x.shift(5, 0, 3, 0, 0), KIND);
+        x.keep(5, -1);
         Check.due("bodies both", x.shift(3, 0, 3, 0, 0), KIND);
         Check.due("unlike sorts", x.shift(0, -1, 2, 0, 1), KIND);
         int[][] noPlace = {{-1, 0, 1}, {0, -1, 1}, {6, 0, 0}, {0, 5, 0}, {0, 0, 5}, {2, 0, 4}, {0, 1, 4}, {0, 0, -1},

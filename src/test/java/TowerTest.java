@@ -10,7 +10,9 @@ public final class TowerTest {
         near();
         build();
         mend();
+        firstMend();
         open();
+        openByHand();
         swap();
         swapStates();
         rings();
@@ -173,6 +175,82 @@ public final class TowerTest {
         for (int what : wrong) {
             Check.due("mend(" + what + ")", x.mend(what), BAD);
         }
+    }
+
+    /** Faces 2 and 3 of cube 1 are as all of cube 2: two of three lines are shown, so one is in the way. */
+    private static void firstMend() {
+        FourCubes x = Check.heap(111111, 132255, 222222);
+        x.box(6);
+        Check.due("no way", x.ways(0, -1), 0);
+        Check.due("many", x.mend(0), mendsByHand(x));
+        Check.due("cube", x.mend(1), 1);
+        Check.due("face", x.mend(2), 2);
+        Check.due("colour", x.mend(3), 0);
+        x.paint(11, 1);
+        x.paint(13, 3);
+        x.paint(10, 1);
+        Check.due("by hand: line 0 is past mending", firstByHand(x), 110);
+        Check.due("cube", x.mend(1), 1);
+        Check.due("face", x.mend(2), 1);
+        Check.due("many", x.mend(0), mendsByHand(x));
+        x.paint(11, 3);
+        x.paint(14, 1);
+        Check.due("colour", x.mend(3), firstByHand(x) % 10);
+    }
+
+    private static int mendsByHand(FourCubes x) {
+        int many = 0;
+        for (int cf = 0; cf < 40; cf++) {
+            for (int colour = 0; colour < 6; colour++) {
+                many += goesPainted(x, cf, colour) ? 1 : 0;
+            }
+        }
+        return many;
+    }
+
+    private static int firstByHand(FourCubes x) {
+        for (int k = 0; k < 400; k++) {
+            if (k % 10 < 6 && goesPainted(x, k / 10, k % 10)) {
+                return k;
+            }
+        }
+        return NOT;
+    }
+
+    private static boolean goesPainted(FourCubes x, int cf, int colour) {
+        int was = x.of(cf / 10, cf % 10);
+        if (cf % 10 > 5 || (x.count(1) >> cf / 10 & 1) == 0 || was == colour) {
+            return false;
+        }
+        x.paint(cf, colour);
+        boolean goes = x.ways(0, -1) > 0;
+        x.paint(cf, was);
+        return goes;
+    }
+
+    private static void openByHand() {
+        FourCubes x = Check.heap(111111, 222211, 111122, 777777);
+        x.box(6);
+        x.paint(24, 6);
+        x.paint(25, 6);
+        x.paint(21, 6);
+        x.paint(12, 6);
+        int[] worn = {12, 21, 24, 25};
+        for (int cf : worn) {
+            int bits = 0;
+            for (int colour = 0; colour < 6; colour++) {
+                bits |= goesPainted(x, cf, colour) ? 1 << colour : 0;
+            }
+            Check.due("open(" + cf + ")", x.open(cf), bits);
+        }
+        Check.due("not worn", x.open(20), STATE);
+        Check.due("not in the box", x.open(31), STATE);
+        FourCubes y = Check.heap(111111, 222222, 723233);
+        y.box(6);
+        Check.due("right and left lie hidden, the worn one is shown: all but 1", y.open(20), 61);
+        FourCubes z = Check.heap(111111, 222222, 111111, 323273);
+        z.box(10);
+        Check.due("likewise on top", z.open(34), 61);
     }
 
     private static void open() {
