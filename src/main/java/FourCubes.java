@@ -79,7 +79,8 @@ public final class FourCubes {
     }
 
     public int cubes(int shelf, int i, int n) {
-        if (!isShelf(shelf) || i < 0 || n < 1 || n > MOST_CUBES) {
+        // The place is not looked at here: the row just has no six at one that is not there.
+        if (!isShelf(shelf) || n < 1 || n > MOST_CUBES) {
             return BAD;
         }
         Shelf from = shelves[shelf];

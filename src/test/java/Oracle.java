@@ -47,7 +47,7 @@ final class Oracle {
     }
 
     int cubes(int shelf, int i, int n) {
-        if (shelf < 0 || shelf > 5 || n < 1 || n > 8 || i < 0) {
+        if (shelf < 0 || shelf > 5 || n < 1 || n > 8) {
             return BAD;
         }
         if (shelves[shelf] != null && !(shelves[shelf] instanceof byte[])) {

@@ -12,6 +12,7 @@ public final class ShelvesTest {
         shiftRefusals();
         cubesFromRow();
         cubesRefusals();
+        cubesFromBelowZero();
         Check.finish("ShelvesTest");
     }
 
@@ -212,10 +213,29 @@ public final class ShelvesTest {
         Check.due("booleans", x.cubes(2, 0, 1), KIND);
         Check.due("missing", x.cubes(4, 0, 1), 0);
         int[][] wrong = {{-1, 0, 1}, {6, 0, 1}, {3, 0, 0}, {3, 0, 9}, {3, 0, -1}, {4, 0, 9}, {0, 0, 0}, {MIN, 0, 1}, {3, 0, MAX},
-            {3, -1, 1}, {3, MIN, 1}};
+            {3, -1, 0}, {4, -1, 9}, {6, -1, 1}};
         for (int[] w : wrong) {
             Check.due("cubes(" + w[0] + ", " + w[1] + ", " + w[2] + ")", x.cubes(w[0], w[1], w[2]), BAD);
         }
         Check.due("none came", x.count(0), 0);
+    }
+
+    /** The document tells no range of the place: none below 0 is BAD, and none has a six. */
+    private static void cubesFromBelowZero() {
+        FourCubes x = new FourCubes();
+        x.body(0);
+        x.keep(0, 0);
+        x.row(1, 1, 12);
+        x.row(2, 0, 0);
+        x.row(3, 0, 60);
+        for (int i : new int[] {-1, -5, -6, -7, -48, MIN, MIN + 5}) {
+            Check.due("a body, from " + i, x.cubes(0, i, 1), KIND);
+            Check.due("shorts, from " + i, x.cubes(1, i, 1), KIND);
+            Check.due("an empty row, from " + i, x.cubes(2, i, 1), 0);
+            Check.due("a row, from " + i, x.cubes(3, i, 8), 0);
+            Check.due("missing, from " + i, x.cubes(4, i, 8), 0);
+        }
+        Check.due("none came", x.count(0), 0);
+        Check.due("from 0 they come", x.cubes(3, 0, 8), 8);
     }
 }
