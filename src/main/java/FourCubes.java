@@ -616,7 +616,7 @@ public final class FourCubes {
         }
     }
 
-    /** THE TAPE, and THE LAW that it became, kept as signs in the order in which they work. */
+    /** THE TAPE, and THE LAW that it became: read into signs in the order in which they work, and worked out for all that can be asked. */
     private static final class Law {
         private static final int LONGEST = 120, DEEPEST = 6, MOST_DIGITS = 4;
         private static final int EITHER = 0, COMPARED = 2, OPERAND = 5;
@@ -627,9 +627,7 @@ public final class FourCubes {
         int fed;
         private int place;
         /** Numbers as they are, signs below 0; each byte gives one at most, and the end one more. */
-        private int[] draft = new int[LONGEST + 1];
-        private int drafted;
-        private int[] code = new int[LONGEST + 1];
+        private final int[] code = new int[LONGEST + 1];
         private int length;
         private final int[] stack = new int[LONGEST + 1];
         private int a, b, s, i, j;
@@ -651,16 +649,13 @@ public final class FourCubes {
 
         int takeTape() {
             place = 0;
-            drafted = 0;
+            length = 0;
             boolean whole = readText();
             fed = 0;
             if (!whole) {
                 return -100 - place;
             }
-            int[] old = code;
-            code = draft;
-            draft = old;
-            length = drafted;
+            // THE LAW is what was worked out last: a FAULT leaves it as it was.
             workOutAll();
             return 1;
         }
@@ -670,9 +665,9 @@ public final class FourCubes {
         }
 
         private void emit(int sign) {
-            if (drafted < draft.length) {
-                draft[drafted] = sign;
-                drafted++;
+            if (length < code.length) {
+                code[length] = sign;
+                length++;
             }
         }
 

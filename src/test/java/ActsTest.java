@@ -60,7 +60,7 @@ public final class ActsTest {
 
     private static void valuesWrap() {
         FourCubes x = new FourCubes();
-        int[] kinds = {3, 5, 7, 0};
+        int[] kinds = {3, 5, 0, 7, 1, 2, 4, 6};
         for (int kind : kinds) {
             x.body(kind);
         }
@@ -74,10 +74,21 @@ public final class ActsTest {
             Check.due("BAR 1 turns " + v, x.act(1, 0, v), v + 1 + 3);
             Check.due("BAR 1 lies " + v, x.act(1, 2, v), (v ^ 1) - 6);
             Check.due("BAR 1 tells " + v, x.act(1, 3, v), (((v + 4) * 2 - lies) ^ 5) + 1);
-            Check.due("WORN 2 turns " + v, x.act(2, 0, v), (v + 2) * 2 - 1);
-            Check.due("WORN 2 shows " + v, x.act(2, 1, v), ((v + 2) * 2 - 1) * 2 + (2 ^ 2));
-            Check.due("WORN 2 tells " + v, x.act(2, 3, v), ((v + 2) * 2 - 1) * 2 + (2 ^ 2) - (1 ^ 2));
-            Check.due("HEAP 3 tells " + v, x.act(3, 3, v), (v + 3) * 2 - (1 ^ 3));
+            Check.due("HEAP 2 tells " + v, x.act(2, 3, v), (v + 2) * 2 - (1 ^ 2));
+            Check.due("WORN 3 turns " + v, x.act(3, 0, v), (v + 3) * 2 - 1);
+            Check.due("WORN 3 shows " + v, x.act(3, 1, v), ((v + 3) * 2 - 1) * 2 + (2 ^ 3));
+            Check.due("WORN 3 lies " + v, x.act(3, 2, v), v ^ 3);
+            Check.due("WORN 3 tells " + v, x.act(3, 3, v), ((v + 3) * 2 - 1) * 2 + (2 ^ 3) - (1 ^ 3));
+            Check.due("TOWER 4 turns " + v, x.act(4, 0, v), v + 4 + 3);
+            Check.due("TOWER 4 tells " + v, x.act(4, 3, v), (v + 4 + 3) * 2 - (1 ^ 4));
+            Check.due("WALL 5 turns " + v, x.act(5, 0, v), v + 5);
+            Check.due("WALL 5 shows " + v, x.act(5, 1, v), -((v + 5) * 2));
+            Check.due("WALL 5 tells " + v, x.act(5, 3, v), -((v + 5) * 2) - (1 ^ 5));
+            Check.due("ROW 6 shows " + v, x.act(6, 1, v), (v + 6 + 3) * 2);
+            Check.due("ROW 6 tells " + v, x.act(6, 3, v), ((v + 6 + 3) * 2 - (1 ^ 6)) ^ 5);
+            Check.due("TOLD 7 turns " + v, x.act(7, 0, v), (v + 7) * 2);
+            Check.due("TOLD 7 shows " + v, x.act(7, 1, v), (v + 7) * 2 * 2);
+            Check.due("TOLD 7 tells " + v, x.act(7, 3, v), (v + 7) * 2 * 2 - (1 ^ 7));
         }
     }
 

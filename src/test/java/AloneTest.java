@@ -179,12 +179,13 @@ public final class AloneTest {
     }
 
     private static void great() {
-        FourCubes x = Check.heap(112212, 111222, 777111, 121212, 222777, 177777);
+        int[] colours = {112212, 111222, 777111, 121212, 222777, 177777};
+        FourCubes x = Check.heap(colours);
         Check.due("great(0)", x.great(0), 1 + 4 + 32);
         for (int colour = 0; colour < 6; colour++) {
             int bits = 0;
             for (int cube = 0; cube < 6; cube++) {
-                bits |= corner(x, cube, colour) << cube;
+                bits |= corner(Check.heap(colours[cube]), colour) << cube;
             }
             Check.due("great(" + colour + ")", x.great(colour), bits);
         }
@@ -194,12 +195,12 @@ public final class AloneTest {
         }
     }
 
-    private static int corner(FourCubes x, int cube, int colour) {
+    private static int corner(FourCubes x, int colour) {
         int[][] corners = {{0, 1, 4}, {1, 2, 4}, {2, 3, 4}, {3, 0, 4}, {0, 1, 5}, {1, 2, 5}, {2, 3, 5}, {3, 0, 5}};
         for (int[] corner : corners) {
             boolean all = true;
             for (int face : corner) {
-                all &= x.of(cube, face) == colour || x.of(cube, face) == 6;
+                all &= x.of(0, face) == colour || x.of(0, face) == 6;
             }
             if (all) {
                 return 1;

@@ -100,50 +100,48 @@ public final class LawTest {
     }
 
     private static void values() {
-        FourCubes x = threeAndFive();
         String[] not0 = {"a=3", "b=5", "a<b", "b>a", "a|0", "0|b", "a&b", "!0", "!!7=1", "-a=0-3", "a+b=8", "a-b=0-2", "a*b=15",
             "b/a=1", "b%a=2", "(0-5)/3=0-1", "(0-5)%3=0-2", "-5/3=-1", "7/0=0", "7%0=0", "0=7/0", "1+2*3=7", "2*3+1=7", "(1+2)*3=9",
             "8-4-2=2", "8/4/2=1", "7%5*2=4", "-2*3=-6", "1|0&0", "(1|0)&1", "5|0=0", "(7|0)=1", "(7&9)=1", "-!0=0-1", "!-1=0",
             "9999*9999*9999%9999=0-2714", "2-3", "0007=7", "1=1&2=2", "3-1*2=1",
             "(0<1)+(2>1)+(3=3)=3", "!a+1=1", "!(a-3)=1", "1-1|1", "!0*5=5"};
         for (String text : not0) {
-            mayBe(x, text, true);
+            mayBe(threeAndFive(), text, true);
         }
         String[] zero = {"a=b", "a>b", "b<a", "0", "a-3", "!a", "0|0", "0&1", "1&0", "7/0", "7%0", "b-5", "1>1", "1<1", "0*9", "a/4",
             "9999*0", "(1|0)&0", "!1|!2"};
         for (String text : zero) {
-            mayBe(x, text, false);
+            mayBe(threeAndFive(), text, false);
         }
         // The least int: by -1 it stays as it is, and nothing is left over.
         String least = "(4096*4096*128)";
-        mayBe(x, least + "<0", true);
-        mayBe(x, least + "/-1=" + least, true);
-        mayBe(x, least + "%-1=0", true);
-        mayBe(x, "-" + least + "=" + least, true);
+        mayBe(threeAndFive(), least + "<0", true);
+        mayBe(threeAndFive(), least + "/-1=" + least, true);
+        mayBe(threeAndFive(), least + "%-1=0", true);
+        mayBe(threeAndFive(), "-" + least + "=" + least, true);
     }
 
     /** A text of 120 bytes, each of which counts. */
     private static void longest() {
-        FourCubes x = threeAndFive();
         StringBuilder text = new StringBuilder("!0");
         for (int k = 0; k < 59; k++) {
             text.append("+0");
         }
-        mayBe(x, text.toString(), true);
+        mayBe(threeAndFive(), text.toString(), true);
         text.setLength(118);
-        mayBe(x, text + "-1", false);
+        mayBe(threeAndFive(), text + "-1", false);
         StringBuilder lines = new StringBuilder("-0?1");
         for (int k = 0; k < 29; k++) {
             lines.append(";0?1");
         }
-        mayBe(x, lines.toString(), false);
+        mayBe(threeAndFive(), lines.toString(), false);
         lines.setLength(116);
-        mayBe(x, lines + ";1?1", true);
+        mayBe(threeAndFive(), lines + ";1?1", true);
         StringBuilder shortest = new StringBuilder("0");
         for (int k = 0; k < 59; k++) {
             shortest.append(";0");
         }
-        mayBe(x, shortest.toString(), false);
+        mayBe(threeAndFive(), shortest.toString(), false);
     }
 
     private static void names() {

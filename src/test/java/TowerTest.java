@@ -179,67 +179,57 @@ public final class TowerTest {
 
     /** Faces 2 and 3 of cube 1 are as all of cube 2: two of three lines are shown, so one is in the way. */
     private static void firstMend() {
-        FourCubes x = Check.heap(111111, 132255, 222222);
-        x.box(6);
+        int[] colours = {111111, 132255, 222222};
+        FourCubes x = Check.boxed(6, colours);
         Check.due("no way", x.ways(0, -1), 0);
-        Check.due("many", x.mend(0), mendsByHand(x));
+        Check.due("many", x.mend(0), mendsByHand(6, colours));
         Check.due("cube", x.mend(1), 1);
         Check.due("face", x.mend(2), 2);
         Check.due("colour", x.mend(3), 0);
-        x.paint(11, 1);
-        x.paint(13, 3);
-        x.paint(10, 1);
-        Check.due("by hand: line 0 is past mending", firstByHand(x), 110);
+        colours[1] = 222455;
+        x = Check.boxed(6, colours);
+        Check.due("by hand: line 0 is past mending", firstByHand(6, colours), 110);
         Check.due("cube", x.mend(1), 1);
         Check.due("face", x.mend(2), 1);
-        Check.due("many", x.mend(0), mendsByHand(x));
-        x.paint(11, 3);
-        x.paint(14, 1);
-        Check.due("colour", x.mend(3), firstByHand(x) % 10);
+        Check.due("many", x.mend(0), mendsByHand(6, colours));
+        colours[1] = 242425;
+        Check.due("colour", Check.boxed(6, colours).mend(3), firstByHand(6, colours) % 10);
     }
 
-    private static int mendsByHand(FourCubes x) {
+    private static int mendsByHand(int box, int... colours) {
         int many = 0;
-        for (int cf = 0; cf < 40; cf++) {
-            for (int colour = 0; colour < 6; colour++) {
-                many += goesPainted(x, cf, colour) ? 1 : 0;
-            }
+        for (int k = 0; k < 100 * colours.length; k++) {
+            many += goesPainted(k, box, colours) ? 1 : 0;
         }
         return many;
     }
 
-    private static int firstByHand(FourCubes x) {
-        for (int k = 0; k < 400; k++) {
-            if (k % 10 < 6 && goesPainted(x, k / 10, k % 10)) {
+    private static int firstByHand(int box, int... colours) {
+        for (int k = 0; k < 100 * colours.length; k++) {
+            if (goesPainted(k, box, colours)) {
                 return k;
             }
         }
         return NOT;
     }
 
-    private static boolean goesPainted(FourCubes x, int cf, int colour) {
-        int was = x.of(cf / 10, cf % 10);
-        if (cf % 10 > 5 || (x.count(1) >> cf / 10 & 1) == 0 || was == colour) {
+    /** Whether there is a way after a paint (100 times the cube, 10 times the face, and the colour) that changes something. */
+    private static boolean goesPainted(int paint, int box, int... colours) {
+        if (paint / 10 % 10 > 5 || paint % 10 > 5 || (box >> paint / 100 & 1) == 0) {
             return false;
         }
-        x.paint(cf, colour);
-        boolean goes = x.ways(0, -1) > 0;
-        x.paint(cf, was);
-        return goes;
+        FourCubes x = Check.boxed(box, colours);
+        return x.paint(paint / 10, paint % 10) != paint % 10 && x.ways(0, -1) > 0;
     }
 
     private static void openByHand() {
-        FourCubes x = Check.heap(111111, 222211, 111122, 777777);
-        x.box(6);
-        x.paint(24, 6);
-        x.paint(25, 6);
-        x.paint(21, 6);
-        x.paint(12, 6);
+        int[] colours = {111111, 227211, 171177, 777777};
+        FourCubes x = Check.boxed(6, colours);
         int[] worn = {12, 21, 24, 25};
         for (int cf : worn) {
             int bits = 0;
             for (int colour = 0; colour < 6; colour++) {
-                bits |= goesPainted(x, cf, colour) ? 1 << colour : 0;
+                bits |= goesPainted(10 * cf + colour, 6, colours) ? 1 << colour : 0;
             }
             Check.due("open(" + cf + ")", x.open(cf), bits);
         }
