@@ -198,6 +198,10 @@ public final class TowerEdgesTest {
             x.box(boxes[k]);
             Check.due("near(0) of box " + boxes[k], x.near(0), due[k]);
         }
+        FourCubes y = ruled("j>1?0;s>0|a=2", 123456, 111111, 111111, 111111);
+        Check.due("the lowest two go, no other", y.near(0), 20);
+        y.box(3);
+        Check.due("the lowest two alone, by the last of the lowest", y.near(0), 0);
     }
 
     private static void aToldTurning() {
